@@ -75,6 +75,9 @@ public final class CardPromisesTest {
         ring.play();
         Check.isThrown("6 played", Check.STATE, () -> ring.book(0, 1, 6, 7, true, 1, -1));
         Check.due("6 nothing changed", 3, ring.ofCard(0, 1));
+        ring.pass();
+        ring.play();
+        Check.isThrown("6 played, with room left", Check.STATE, () -> ring.book(1, 2, 6, 7, true, 1, -1));
     }
 
     private static void promise6Bars() {

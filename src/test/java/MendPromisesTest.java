@@ -11,6 +11,8 @@ public final class MendPromisesTest {
         bars();
         struck();
         stays();
+        mendAlone();
+        theSecondMatch();
         Check.finish();
     }
 
@@ -254,6 +256,32 @@ public final class MendPromisesTest {
         Check.due("11 no card then", KayfabeRing.NONE, ring.ofCard(0, 0));
         allThrow("no card then", ring);
         Check.due("11 any town then", 0, ring.book(0, 1, 3, 6, true, 1, -1));
+    }
+
+    /** Nobody asks for the sum first. */
+    private static void mendAlone() {
+        KayfabeRing ring = ringOf(90, 20, 30, 40);
+        book(ring, 2, 3);
+        ring.hurt(2, 1);
+        Check.due("11 alone", 0, ring.mend());
+        Check.due("11 the lowest number comes", 0, ring.ofMatch(0, 0, 0));
+        ring.hurt(0, 1);
+        Check.due("11 alone, once more", 0, ring.mend());
+        Check.due("11 another one comes", 1, ring.ofMatch(0, 0, 0));
+        ring.hurt(1, 1);
+        Check.due("11 nobody is left", 1, ring.mend());
+    }
+
+    private static void theSecondMatch() {
+        KayfabeRing ring = ringOf(90, 20, 30, 40, 50, 60, 70, 55);
+        for (int i = 1; i < 7; i += 2) {
+            book(ring, i, i + 1);
+        }
+        ring.hurt(4, 1);
+        mended("the second one's second place", ring, 90, 0, 1, 2, 3, 0, 5, 6);
+        ring.protect(6, 1);
+        ring.hurt(3, 1);
+        mended("the second one's first place", ring, 55, 0, 1, 2, 7, 0, 5, 6);
     }
 
     private static void stays() {

@@ -141,8 +141,12 @@ public final class NaiveRunsTest {
     }
 
     private void mend() {
-        same("mending()", ring::mending, naive::mending);
-        same("mendingAnew()", ring::mendingAnew, naive::mending);
+        if (luck.nextBoolean()) {
+            same("mending()", ring::mending, naive::mending);
+        }
+        if (luck.nextBoolean()) {
+            same("mendingAnew()", ring::mendingAnew, naive::mending);
+        }
         if (luck.nextInt(3) != 0) {
             same("mend()", ring::mend, naive::mend);
             lookAtCard(naive.day);

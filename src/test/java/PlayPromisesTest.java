@@ -8,6 +8,8 @@ public final class PlayPromisesTest {
         promise12Real();
         promise12Titles();
         promise12Turns();
+        promise12TurnsAt50();
+        promise12TurnsAtMinus50();
         turnsOnceAtMost();
         promise17();
         promise18();
@@ -49,6 +51,11 @@ public final class PlayPromisesTest {
         Check.isThrown("12 somebody is hurt", Check.STATE, ring::play);
         Check.due("12 nothing changed", 0, ring.gate(2));
         ring.strike(0, 3);
+        KayfabeRing other = ring();
+        other.book(0, 2, 2, 3, true, 25, -1);
+        other.book(0, 2, 4, 5, true, 25, -1);
+        other.hurt(2, 1);
+        Check.isThrown("12 the first one is hurt", Check.STATE, other::play);
         Check.due("12 worths ahead of the love and the strain", 20 + 30 + 40 + 50 + 60 + 80, ring.play());
         Check.due("12 a face that wins", 6, ring.love(2, 2));
         Check.due("12 a heel that loses", -2, ring.love(2, 3));
@@ -129,6 +136,53 @@ public final class PlayPromisesTest {
         playOne(ring, 1, 0, 1, -1);
         Check.due("12 as a face now", 57, ring.love(1, 0));
         Check.due("12 against a face", -19, ring.love(1, 1));
+    }
+
+    private static void promise12TurnsAt50() {
+        KayfabeRing ring = new KayfabeRing();
+        ring.wrestler(1, 59, KayfabeRing.HEEL);
+        ring.wrestler(1, 99, KayfabeRing.HEEL);
+        for (int i = 0; i < 17; i++) {
+            playOne(ring, 0, 0, 1, -1);
+        }
+        playOne(ring, 0, 1, 0, -1);
+        Check.due("12 50 in one town", 50, ring.love(0, 0));
+        for (int i = 0; i < 16; i++) {
+            playOne(ring, 1, 0, 1, -1);
+        }
+        playOne(ring, 1, 1, 0, -1);
+        Check.due("12 not in the other one", KayfabeRing.HEEL, ring.ofWrestler(0, 0));
+        for (int i = 0; i < 20; i++) {
+            Check.due("13 a heel that far", KayfabeRing.HEEL, ring.ofWrestler(0, 0));
+            ring.promo(2 + i % 2, 0, i == 19 ? 1 : 0);
+            ring.pass();
+        }
+        playOne(ring, 1, 0, 1, -1);
+        Check.due("12 50 in two towns", 50, ring.love(1, 0));
+        Check.due("12 turned at 50", KayfabeRing.FACE, ring.ofWrestler(0, 0));
+        Check.due("13 hated in one town", -50, ring.love(2, 0));
+        Check.due("13 in the other not enough", -49, ring.love(3, 0));
+        ring.promo(2, 0, 9);
+        Check.due("13 not turned", KayfabeRing.FACE, ring.ofWrestler(0, 0));
+        ring.pass();
+        playOne(ring, 3, 1, 0, -1);
+        Check.due("12 not turned", KayfabeRing.FACE, ring.ofWrestler(0, 0));
+    }
+
+    private static void promise12TurnsAtMinus50() {
+        KayfabeRing ring = new KayfabeRing();
+        ring.wrestler(1, 59, KayfabeRing.HEEL);
+        ring.wrestler(1, 99, KayfabeRing.HEEL);
+        for (int i = 0; i < 20; i++) {
+            Check.due("13 the mic divided by 10", -5 * (1 + i / 2), ring.promo(2 + i % 2, 0, 0));
+            ring.pass();
+        }
+        for (int i = 0; i < 34; i++) {
+            playOne(ring, i % 2, 0, 1, -1);
+        }
+        Check.due("12 a face now", KayfabeRing.FACE, ring.ofWrestler(0, 0));
+        ring.promo(0, 0, 9);
+        Check.due("13 turned at -50", KayfabeRing.HEEL, ring.ofWrestler(0, 0));
     }
 
     /** A heel hated in two towns and loved in two turns at every match and every promo, once each time. */
@@ -295,6 +349,14 @@ public final class PlayPromisesTest {
         beaten(ring, 0, 9, 0);
         ring.play();
         beaten(ring, 4, 5, 4);
+
+        KayfabeRing struck = ring();
+        struck.book(0, 0, 4, 5, true, 1, -1);
+        struck.book(0, 0, 6, 7, true, 1, -1);
+        struck.strike(0, 0);
+        struck.play();
+        beaten(struck, 4, 5, 0);
+        beaten(struck, 6, 7, 1);
     }
 
     private static void beaten(KayfabeRing ring, int wrestler, int other, int want) {
