@@ -282,6 +282,20 @@ public final class MendPromisesTest {
         ring.protect(6, 1);
         ring.hurt(3, 1);
         mended("the second one's first place", ring, 55, 0, 1, 2, 7, 0, 5, 6);
+
+        KayfabeRing few = ringOf(90, 20, 30, 40, 50);
+        book(few, 1, 2);
+        book(few, 3, 4);
+        few.hurt(3, 1);
+        few.hurt(4, 1);
+        mended("one is too few for both of the second one", few, 0, 1, 1, 2);
+
+        KayfabeRing bars = ringOf(90, 20, 30, 40, 50);
+        book(bars, 1, 2);
+        book(bars, 3, 4);
+        bars.hurt(3, 1);
+        bars.protect(4, 1);
+        mended("who stays in the second one is protected", bars, 0, 1, 1, 2);
     }
 
     private static void stays() {

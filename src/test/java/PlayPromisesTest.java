@@ -17,6 +17,7 @@ public final class PlayPromisesTest {
         promise22();
         promises23And24();
         promise25();
+        longUse();
         Check.finish();
     }
 
@@ -379,5 +380,17 @@ public final class PlayPromisesTest {
         ring.book(1, 3, 6, 8, true, 1, -1);
         Check.due("12 with the love there", 60 + 6 + 80 + 6, ring.play());
         Check.due("25 together", 452, ring.gate(3));
+    }
+
+    /** Behind the 512th call answers are free, but nothing that no call names is ever thrown. */
+    private static void longUse() {
+        KayfabeRing ring = ring();
+        for (int day = 0; day < 999; day++) {
+            ring.book(day, day % 4, day % 2, 1 - day % 2, true, 60, 0);
+            ring.play();
+            ring.pass();
+        }
+        Check.due("rule 7: a record of 999 days", 999, ring.beatAnew(0, 1) + ring.beatAnew(1, 0));
+        Check.isThrown("rule 7: behind the lineage", Check.INDEX, () -> ring.lineage(0, 1000, true));
     }
 }
