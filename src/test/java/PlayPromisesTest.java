@@ -172,7 +172,7 @@ public final class PlayPromisesTest {
 
     private static void promise12TurnsAtMinus50() {
         KayfabeRing ring = new KayfabeRing();
-        ring.wrestler(1, 59, KayfabeRing.HEEL);
+        ring.wrestler(1, 50, KayfabeRing.HEEL);
         ring.wrestler(1, 99, KayfabeRing.HEEL);
         for (int i = 0; i < 20; i++) {
             Check.due("13 the mic divided by 10", -5 * (1 + i / 2), ring.promo(2 + i % 2, 0, 0));
