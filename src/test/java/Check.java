@@ -31,6 +31,11 @@ final class Check {
         due(what, exception, outcome(call));
     }
 
+    static void isAllowed(String what, Call call) {
+        String got = outcome(call);
+        due(what, "an answer", got.endsWith("Exception") ? got : "an answer");
+    }
+
     /** The answer, or the name of the exception. */
     static String outcome(Call call) {
         try {
