@@ -21,9 +21,9 @@ public final class RefusalsTest {
 
     public static void main(String[] args) {
         RefusalsTest[] states = {
-            new RefusalsTest("booked", RefusalsTest::booked), new RefusalsTest("open places", RefusalsTest::open),
-            new RefusalsTest("five open places", RefusalsTest::fiveOpen),
-            new RefusalsTest("played", RefusalsTest::played), new RefusalsTest("the next day", RefusalsTest::nextDay),
+            new RefusalsTest("booked", States::booked), new RefusalsTest("open places", States::open),
+            new RefusalsTest("five open places", States::fiveOpen),
+            new RefusalsTest("played", States::played), new RefusalsTest("the next day", States::nextDay),
         };
         for (RefusalsTest test : states) {
             test.roster();
@@ -38,71 +38,9 @@ public final class RefusalsTest {
         states[3].mendsAndPlays(true, true);
         states[4].mendsAndPlays(true, true);
         states[3].closed();
-        new RefusalsTest("the last day", RefusalsTest::lastDay).pass();
+        new RefusalsTest("the last day", States::lastDay).pass();
         emptyAndHalf();
         Check.finish();
-    }
-
-    /** All ten and all four; day 1: champions, clauses, a protection, promos, cards of today and of later days. */
-    private static KayfabeRing booked() {
-        KayfabeRing ring = new KayfabeRing();
-        for (int i = 0; i < 10; i++) {
-            ring.wrestler(11 * i, 99 - 8 * i, i % 2);
-        }
-        for (int i = 0; i < 4; i++) {
-            ring.title();
-        }
-        ring.book(0, 1, 0, 1, true, 20, 0);
-        ring.book(0, 1, 2, 3, false, 30, 1);
-        ring.play();
-        ring.pass();
-        ring.clause(4, 5, 500);
-        ring.clause(9, 8, 0);
-        ring.protect(6, 400);
-        ring.book(1, 2, 0, 2, true, 60, 0);
-        ring.book(1, 2, 4, 5, true, 40, 2);
-        ring.book(1, 2, 6, 1, true, 15, Stage.NONE);
-        ring.shoot(1);
-        ring.book(2, 3, 3, 8, false, 15, 1);
-        ring.book(999, 0, 1, 9, true, 60, 3);
-        ring.promo(0, 7, 2);
-        ring.promo(1, 1, 0);
-        ring.hurt(8, 1);
-        return ring;
-    }
-
-    private static KayfabeRing open() {
-        KayfabeRing ring = booked();
-        ring.hurt(5, 9);
-        ring.head(0);
-        return ring;
-    }
-
-    private static KayfabeRing fiveOpen() {
-        KayfabeRing ring = open();
-        ring.hurt(1, 200);
-        ring.hurt(2, 2);
-        ring.hurt(4, 1);
-        return ring;
-    }
-
-    private static KayfabeRing played() {
-        KayfabeRing ring = booked();
-        ring.play();
-        return ring;
-    }
-
-    private static KayfabeRing nextDay() {
-        KayfabeRing ring = played();
-        ring.strike(2, 0);
-        ring.pass();
-        return ring;
-    }
-
-    private static KayfabeRing lastDay() {
-        KayfabeRing ring = Stage.passTo(booked(), 999);
-        ring.hurt(0, 5);
-        return ring;
     }
 
     private void refused(String what, String exception, Stage.Use call) {
@@ -174,9 +112,9 @@ public final class RefusalsTest {
         refused("6 the second has a clause", Check.STATE, ring -> ring.book(500, 2, 5, 4, true, 5, 3));
         refused("6 the first is protected", Check.STATE, ring -> ring.book(399, 2, 6, 9, false, 5, 3));
         refused("6 the second is protected", Check.STATE, ring -> ring.book(399, 2, 9, 6, true, 5, 3));
-        Check.due("6 else it is booked", 3, booked().book(1, 2, 7, 9, true, 5, 3));
-        Check.due("6 else it is booked", 0, booked().book(501, 2, 4, 5, false, 5, 3));
-        Check.due("6 else it is booked", 0, booked().book(400, 2, 6, 9, false, 5, 3));
+        Check.due("6 else it is booked", 3, States.booked().book(1, 2, 7, 9, true, 5, 3));
+        Check.due("6 else it is booked", 0, States.booked().book(501, 2, 4, 5, false, 5, 3));
+        Check.due("6 else it is booked", 0, States.booked().book(400, 2, 6, 9, false, 5, 3));
     }
 
     private void cards() {

@@ -128,6 +128,7 @@ final class Views {
         add(text, ring::pass);
         add(text, ring::play);
         people(ring, text);
+        titles(ring, text);
     }
 
     private static void more(KayfabeRing ring, StringBuilder text) {
